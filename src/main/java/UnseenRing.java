@@ -750,7 +750,7 @@ public final class UnseenRing {
         }
     }
 
-    /** The tape, and the text at its beginning, token by token; it keeps the first fault. */
+    /** The tape, and the text at its beginning as a row of tokens; it keeps the first fault. */
     private static final class Tokens {
         static final int MOST_BYTES = 900;
         static final int BYTES_FED = 20;
@@ -758,10 +758,12 @@ public final class UnseenRing {
         static final int MOST_LETTERS = 8;
 
         static final int END = 0;
-        static final int WORD = 1;
-        static final int NUMBER = 2;
-        static final int SIGN = 3;
-        static final int WRONG = 4;
+        static final int NAME = 1;
+        static final int LONG_WORD = 2;
+        static final int RESERVED_WORD = 3;
+        static final int NUMBER = 4;
+        static final int SIGN = 5;
+        static final int WRONG = 6;
 
         static final int NO_TOKEN = 1;
         static final int CANT_STAND = 2;
@@ -803,15 +805,16 @@ public final class UnseenRing {
 
         private final byte[] bytes = new byte[MOST_BYTES];
         private final long[] reserved = new long[RESERVED];
-        private int textEnd = 0;
-        private int next = 0;
-        private int place = 0;
-        private int number = 0;
-        private long letters = 0;
+        private final int[] kinds = new int[MOST_BYTES + 1];
+        private final int[] places = new int[MOST_BYTES + 1];
+        /** Of a NAME its letters, packed; of a reserved word and of a NUMBER that; of a SIGN its byte. */
+        private final long[] values = new long[MOST_BYTES + 1];
+        private int count = 0;
+        private int current = 0;
         int length = 0;
         int kind = END;
+        /** The reserved word that stands here, or NONE. */
         int word = NONE;
-        int sign = 0;
         int fault = NONE;
         int faultPlace = NONE;
 
@@ -846,35 +849,27 @@ public final class UnseenRing {
         }
 
         void begin(int n) {
-            textEnd = Math.min(n, length);
-            next = 0;
+            scanAll(Math.min(n, length));
             fault = 0;
             faultPlace = NONE;
+            current = NONE;
             advance();
         }
 
         /** Keeps the fault of this token; what begins no token is refused as such first. */
         boolean refuse(int faultKind) {
             fault = kind == WRONG ? NO_TOKEN : faultKind;
-            faultPlace = place;
+            faultPlace = places[current];
             return false;
         }
 
+        /** The last token is the text's end, and stays. */
         void advance() {
-            skipBlanks();
-            place = next;
-            word = NONE;
-            if (next >= textEnd) {
-                kind = END;
-            } else if (isLetter(byteAt(next))) {
-                scanWord();
-            } else if (isDigit(byteAt(next))) {
-                scanNumber();
-            } else {
-                sign = byteAt(next);
-                kind = sign == ';' || isCompares() ? SIGN : WRONG;
-                next++;
+            if (current < count - 1) {
+                current++;
             }
+            kind = kinds[current];
+            word = kind == RESERVED_WORD ? (int) values[current] : NONE;
         }
 
         boolean takeWord(int wanted) {
@@ -886,7 +881,7 @@ public final class UnseenRing {
         }
 
         boolean takeSemicolon() {
-            if (kind != SIGN || sign != ';') {
+            if (kind != SIGN || values[current] != ';') {
                 return refuse(CANT_STAND);
             }
             advance();
@@ -895,11 +890,11 @@ public final class UnseenRing {
 
         /** The sign, or NONE with a fault. */
         int takeCompares() {
-            if (kind != SIGN || !isCompares()) {
+            if (kind != SIGN || values[current] == ';') {
                 refuse(CANT_STAND);
                 return NONE;
             }
-            int taken = sign;
+            int taken = (int) values[current];
             advance();
             return taken;
         }
@@ -910,60 +905,97 @@ public final class UnseenRing {
                 refuse(CANT_STAND);
                 return NONE;
             }
-            if (!within(number, least, most)) {
+            int taken = (int) values[current];
+            if (!within(taken, least, most)) {
                 refuse(NUMBER_FAULT);
                 return NONE;
             }
-            int taken = number;
             advance();
             return taken;
         }
 
         /** The letters of the NAME that stands here, packed; 0 with a fault if none does. */
         long nameHere() {
-            boolean isName = kind == WORD && word == NONE && next - place <= MOST_LETTERS;
-            if (!isName) {
+            if (kind != NAME) {
                 refuse(CANT_STAND);
+                return 0;
             }
-            return isName ? letters : 0;
+            return values[current];
         }
 
-        private void skipBlanks() {
-            for (int i = next; i < textEnd && (byteAt(i) == ' ' || byteAt(i) == '\n'); i++) {
-                next = i + 1;
-            }
-        }
-
-        private void scanWord() {
-            kind = WORD;
-            letters = 0;
-            for (int i = next; i < textEnd && isLetter(byteAt(i)); i++) {
-                letters = withLetter(letters, byteAt(i));
-                next = i + 1;
-            }
-            // longer words would wrap around in the packing, and no reserved word is as long
-            for (int i = 0; i < RESERVED && next - place <= MOST_LETTERS; i++) {
-                if (reserved[i] == letters) {
-                    word = i;
+        private void scanAll(int end) {
+            count = 0;
+            int next = 0;
+            for (int i = 0; i < MOST_BYTES && next < end; i++) {
+                int first = bytes[next] & 255;
+                if (isLetter(first)) {
+                    next = scanWord(next, end);
+                } else if (isDigit(first)) {
+                    next = scanNumber(next, end);
+                } else {
+                    scanSign(next, first);
+                    next++;
                 }
             }
+            add(END, end, 0);
         }
 
-        private void scanNumber() {
-            number = 0;
-            for (int i = next; i < textEnd && isDigit(byteAt(i)); i++) {
-                number = number * 10 + (byteAt(i) - '0');
+        private int scanWord(int from, int end) {
+            long packed = 0;
+            int next = from;
+            for (int i = from; i < end && isLetter(bytes[i] & 255); i++) {
+                packed = withLetter(packed, bytes[i] & 255);
                 next = i + 1;
             }
-            kind = next - place <= MOST_DIGITS ? NUMBER : WRONG;
+            // a longer word wraps around in the packing, and no reserved word is as long
+            if (next - from > MOST_LETTERS) {
+                add(LONG_WORD, from, 0);
+                return next;
+            }
+            int found = reservedWord(packed);
+            if (found == NONE) {
+                add(NAME, from, packed);
+            } else {
+                add(RESERVED_WORD, from, found);
+            }
+            return next;
         }
 
-        private boolean isCompares() {
-            return sign == '<' || sign == '>' || sign == '=';
+        private int reservedWord(long packed) {
+            for (int i = 0; i < RESERVED; i++) {
+                if (reserved[i] == packed) {
+                    return i;
+                }
+            }
+            return NONE;
         }
 
-        private int byteAt(int index) {
-            return within(index, 0, MOST_BYTES - 1) ? bytes[index] & 255 : 0;
+        private int scanNumber(int from, int end) {
+            int number = 0;
+            int next = from;
+            for (int i = from; i < end && isDigit(bytes[i] & 255); i++) {
+                number = number * 10 + ((bytes[i] & 255) - '0');
+                next = i + 1;
+            }
+            add(next - from <= MOST_DIGITS ? NUMBER : WRONG, from, number);
+            return next;
+        }
+
+        private void scanSign(int at, int sign) {
+            if (sign == ';' || sign == '<' || sign == '>' || sign == '=') {
+                add(SIGN, at, sign);
+            } else if (sign != ' ' && sign != '\n') {
+                add(WRONG, at, sign);
+            }
+        }
+
+        private void add(int itsKind, int itsPlace, long itsValue) {
+            if (count <= MOST_BYTES) {
+                kinds[count] = itsKind;
+                places[count] = itsPlace;
+                values[count] = itsValue;
+                count++;
+            }
         }
 
         private static long withLetter(long packed, int letter) {
@@ -1107,12 +1139,8 @@ public final class UnseenRing {
         private int readLikes(Tokens tokens, Square into) {
             tokens.advance();
             int likes = 0;
-            for (int i = 0; i <= MOST_TUNES && tokens.kind == Tokens.WORD; i++) {
-                long name = tokens.nameHere();
-                if (name == 0) {
-                    return NONE;
-                }
-                int tune = into.tuneNamed(name);
+            for (int i = 0; i <= MOST_TUNES && tokens.kind == Tokens.NAME; i++) {
+                int tune = into.tuneNamed(tokens.nameHere());
                 if (tune == NONE || (likes >> tune & 1) == 1) {
                     tokens.refuse(tune == NONE ? Tokens.NAME_FAULT : Tokens.TWICE);
                     return NONE;
@@ -1186,7 +1214,10 @@ public final class UnseenRing {
                 open[deep] = into.size - 1;
                 deep++;
             }
-            return readRest(word, tokens, square, into) && tokens.takeSemicolon();
+            boolean isRead = word == Tokens.W_WHEN
+                    ? readTest(tokens, square, into)
+                    : readRest(word, tokens, square, into);
+            return isRead && tokens.takeSemicolon();
         }
 
         private boolean readEnd(Tokens tokens, Days into) {
@@ -1212,8 +1243,6 @@ public final class UnseenRing {
                             && readSecond(tokens, 0, square.cells() - 1, into);
                 case Tokens.W_LOOP:
                     return readFirst(tokens, 1, Days.MOST_LOOPS, into);
-                case Tokens.W_WHEN:
-                    return readTest(tokens, square, into);
                 default:
                     return true;
             }
@@ -1410,7 +1439,10 @@ public final class UnseenRing {
         }
 
         int far(int a, int b) {
-            return Math.abs(column(a) - column(b)) + Math.abs(row(a) - row(b));
+            if (wide <= 0) {
+                return 0;
+            }
+            return Math.abs(a % wide - b % wide) + Math.abs(a / wide - b / wide);
         }
 
         int farFromOrgan(int hearer) {
@@ -1497,8 +1529,11 @@ public final class UnseenRing {
         }
 
         private int aStepNearer(int cell) {
-            int columns = column(organ) - column(cell);
-            int rows = row(organ) - row(cell);
+            if (wide <= 0) {
+                return cell;
+            }
+            int columns = organ % wide - cell % wide;
+            int rows = organ / wide - cell / wide;
             if (Math.abs(columns) >= Math.abs(rows)) {
                 return cell + Integer.compare(columns, 0);
             }
@@ -1556,14 +1591,6 @@ public final class UnseenRing {
             }
             return came;
         }
-
-        private int column(int cell) {
-            return wide > 0 ? cell % wide : 0;
-        }
-
-        private int row(int cell) {
-            return wide > 0 ? cell / wide : 0;
-        }
     }
 
     /** DAYS as a row of STEPS and ends. */
@@ -1620,6 +1647,9 @@ public final class UnseenRing {
 
         private final int[] timesLeft = new int[Days.MOST_SIZE];
         private int drawn = 0;
+        private int drawnTune = 0;
+        private int drawnCell = 0;
+        private boolean isPlay = false;
         private int missed = 0;
         private int plays = 0;
         private int coins = 0;
@@ -1646,6 +1676,7 @@ public final class UnseenRing {
                     isLeft = true;
                 } else {
                     steps++;
+                    act(square, next);
                     next = behindStep(square, next);
                 }
             }
@@ -1692,7 +1723,6 @@ public final class UnseenRing {
                 case Tokens.W_FAR:
                     return holds(square, step) ? step + 1 : days.partner[step] + 1;
                 default:
-                    act(square, step);
                     return step + 1;
             }
         }
@@ -1740,23 +1770,27 @@ public final class UnseenRing {
                 case Tokens.W_EMPTY:
                     countMissed(square.emptyCup());
                     break;
+                case Tokens.W_ANY:
+                    drawAll(square);
+                    if (square.tunes == 0) {
+                        missed++;
+                    } else if (isPlay) {
+                        playOne(square, drawnTune);
+                    } else {
+                        throwOne(square, drawnCell);
+                    }
+                    break;
                 default:
-                    doAny(square);
                     break;
             }
         }
 
-        private void doAny(Square square) {
-            if (square.tunes == 0) {
-                missed++;
-                return;
-            }
-            int tune = draw(square.tunes);
-            int cell = draw(square.cells());
-            if (draw(MOST_ODDS) < square.odds) {
-                playOne(square, tune);
-            } else {
-                throwOne(square, cell);
+        /** Draws what any does, which needs all three draws whatever they are; none without TUNES. */
+        private void drawAll(Square square) {
+            if (square.tunes > 0) {
+                drawnTune = draw(square.tunes);
+                drawnCell = draw(square.cells());
+                isPlay = draw(MOST_ODDS) < square.odds;
             }
         }
 

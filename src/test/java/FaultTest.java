@@ -155,6 +155,7 @@ public final class FaultTest {
         daysFault("play any;", 2, 5);
         daysFault("play 1;", 2, 5);
         daysFault("play", 2, 4);
+        daysFault("play;", 2, 4);
         daysFault("play a", 2, 6);
         daysFault("grind 6;", 4, 6);
         daysFault("grind a;", 2, 6);

@@ -474,7 +474,7 @@ public final class PromiseTest {
         for (int i = 0; i < 9; i++) {
             x.write(0, i, i);
         }
-        // all but 8: three at least, the first such row is 0, 2 ..? 1 hits 0 1 2 4, 3 hits 0 3 4 6, 7 hits 4 6 7 8
+        // all but 8 of nine CELLS: no THROW hits more than five, and no two hit these
         C.fine(x, "cover", x.cover(0, 8), 3);
         C.fine(x, "cover", x.cover(0, 0), 0);
         C.refused(x, "coverAt", x.coverAt(0, 0, 0), 6);
