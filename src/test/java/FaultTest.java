@@ -41,6 +41,7 @@ public final class FaultTest {
         hearers();
         days();
         blocks();
+        cutTexts();
         tape();
         CHECK.end();
     }
@@ -144,6 +145,16 @@ public final class FaultTest {
         squareFault("dog at 3 coins 3;", 2, 9);
         squareFault("dog at 3", 2, 8);
         squareFault("dog at", 2, 6);
+        squareFault("dog at 16;", 4, 7);
+        squareFault("dog odds 5;", 2, 4);
+        squareFault("dog at odds 5;", 2, 7);
+        squareFault("hearer odds 5;", 2, 7);
+        squareFault("hearer at odds 5;", 2, 10);
+        squareFault("hearer at 0 coins odds 5;", 2, 18);
+        squareFault("square 1 odds 5;", 2, 9);
+        squareFault("square 1 by odds 5;", 2, 12);
+        squareFault("organ odds 5;", 2, 6);
+        squareFault("odds 5 organ 5;", 2, 7);
     }
 
     private static void days() {
@@ -211,6 +222,27 @@ public final class FaultTest {
         daysFine("any;".repeat(29) + "loop 1;end;", 30);
         daysFault("any;".repeat(27) + "loop 1;loop 1;loop 1;loop 1;", 6, 129);
         daysFault("any;".repeat(26) + "loop 1;loop 1;loop 1;loop 1;", 7, 125);
+    }
+
+    /** Only the first n bytes count, even in the midst of a token. */
+    private static void cutTexts() {
+        cutFault("odds 17;", 6, 2, 6);
+        cutFault("odds 99999;", 9, 4, 5);
+        cutFault("tune abcdefghi;", 13, 2, 13);
+        cutFault("tune a;", 3, 2, 0);
+        cutFault("tune ab; ?", 7, 2, 7);
+        UnseenRing x = new UnseenRing();
+        Check.feed(x, "odds 5; odds 6; ?");
+        CHECK.fine(x, "the first part", x.square(8), 0);
+        CHECK.fine(x, "odds", x.told(5), 5);
+    }
+
+    private static void cutFault(String text, int n, int kind, int place) {
+        UnseenRing x = new UnseenRing();
+        Check.feed(x, text);
+        CHECK.refused(x, "cut " + text, x.square(n), 9);
+        CHECK.due("fault of " + text, x.fault(0), kind);
+        CHECK.due("place of " + text, x.fault(1), place);
     }
 
     private static void tape() {
