@@ -1,6 +1,7 @@
 /** What all tests use: it counts the answers that are not due, and feeds texts. */
 final class Check {
     private final String title;
+    private String sentence = "";
     private int asked = 0;
     private int wrong = 0;
 
@@ -8,12 +9,17 @@ final class Check {
         this.title = title;
     }
 
+    /** The document's sentence that the checks behind this are for. */
+    void sentence(String words) {
+        sentence = "[" + words + "] ";
+    }
+
     void due(String what, long got, long want) {
         asked++;
         if (got != want) {
             wrong++;
             if (wrong <= 40) {
-                System.out.println(title + ": " + what + " answered " + got + ", due is " + want);
+                System.out.println(title + ": " + sentence + what + " answered " + got + ", due is " + want);
             }
         }
     }
