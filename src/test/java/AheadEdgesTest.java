@@ -158,6 +158,9 @@ public final class AheadEdgesTest {
         row(x, 16, 2, 2, 2, 2, 2, 2, 2, 2);
         row(x, 32);
         row(x, 32 + 2, 2);
+        row(x, 1 + 2 + 16, 2, 2, 2, 2, 2, 2, 2, 2);
+        row(x, 2 + 8 + 16, 0, 2, 2, 2, 2, 2, 2, 2, 2);
+        row(x, 1 + 4 + 16, 2, 2, 2, 2, 2, 2, 2, 2);
         C.sentence("behind which all of them are: who is there stays");
         row(x, 32 + 4 + 2, 1, 1, 2);
         UnseenRing y = Check.of("square 5 by 5; tune a; tune b; tune c; hearer at 24 likes a; hearer at 24 likes b;"
@@ -226,6 +229,16 @@ public final class AheadEdgesTest {
         for (int k = 0; k <= 4; k++) {
             C.fine(z, "of one cell " + k, z.placings(1, k), up[k]);
             C.fine(z, "of one cell none, " + k, z.placings(0, k), k == 0 ? 1 : 0);
+        }
+        C.sentence("just these DOGS would be UP");
+        // three cells by each dog, thirteen by none
+        UnseenRing v = Check.of("square 5 by 5; dog at 0; dog at 4; dog at 20; dog at 24;");
+        int[][] just = {{1, 13, 78, 286, 715}, {0, 3, 42, 274, 1105}, {0, 0, 9, 135, 951}, {0, 0, 0, 27, 432},
+            {0, 0, 0, 0, 81}};
+        for (int set = 0; set < 16; set++) {
+            for (int k = 0; k <= 4; k++) {
+                C.fine(v, "placings(" + set + ", " + k + ")", v.placings(set, k), just[Integer.bitCount(set)][k]);
+            }
         }
         C.sentence("if HEARERS were in these alone: who is there does not count");
         UnseenRing w = Check.of("square 3 by 1; dog at 0;");
@@ -378,6 +391,12 @@ public final class AheadEdgesTest {
         rowOf(five, new long[] {0, 4, 20, 24}, 0, 3, 15, 19);
         rowOf(five, new long[] {6, 8}, 7);
         rowOf(five, new long[] {24, 22, 20, 14, 12, 10, 4, 0}, 0, 3, 11, 19, 21);
+        UnseenRing x = Check.of(five);
+        tray(0, 0, 4, 20).accept(x);
+        C.fine(x, "three corners", x.cover(0, 3), 3);
+        tray(0, 24).accept(x);
+        C.fine(x, "then another alone", x.cover(0, 1), 1);
+        C.fine(x, "then another alone", x.coverAt(0, 1, 0), 19);
         rowOf("square 5 by 1;", new long[] {0, 1, 2, 3, 4}, 0, 3);
         rowOf("square 1 by 1;", new long[] {0, 0}, 0);
         rowOf("square 5 by 5;", new long[] {});

@@ -11,6 +11,7 @@ public final class DaysTextEdgesTest {
         length();
         tokens();
         stepsAlone();
+        leftOut();
         theEnd();
         names();
         cells();
@@ -24,6 +25,7 @@ public final class DaysTextEdgesTest {
         firstFault();
         ofNobody();
         daysStay();
+        readAnew();
         C.end();
     }
 
@@ -142,6 +144,34 @@ public final class DaysTextEdgesTest {
         fault("when far ^< 0; end;", 2);
         fault("when far 0 ^0; end;", 2);
         fault("when cup < 0 ^< 0; end;", 2);
+    }
+
+    private static void leftOut() {
+        C.sentence("2 it can't stand there: what stands behind a TOKEN that is left out");
+        String[] steps = {"play a ;", "grind 1 ;", "throw 1 ;", "brush ;", "send 1 1 ;", "empty ;", "any ;", "stop ;",
+            "loop 1 ; end ;", "when up 0 ; end ;", "when seen 0 ; end ;", "when cup < 1 ; end ;",
+            "when far 0 > 1 ; end ;"};
+        for (String step : steps) {
+            String[] tokens = (step + " any ;").split(" ");
+            int many = step.split(" ").length;
+            for (int left = 0; left < many; left++) {
+                StringBuilder text = new StringBuilder();
+                int place = -1;
+                for (int i = 0; i < tokens.length; i++) {
+                    if (i == left + 1) {
+                        place = text.length();
+                    }
+                    text.append(i == left ? "" : tokens[i] + " ");
+                }
+                boolean isNumberOfTwo = step.startsWith("send") && left == 1;
+                boolean isEnd = tokens[left].equals("end");
+                if (!isNumberOfTwo && !isEnd) {
+                    faultAt(text.toString(), 2, place);
+                }
+            }
+        }
+        fault("send 1 ^; any;", 2);
+        fault("loop 1; ^; any;", 2);
     }
 
     private static void theEnd() {
@@ -319,6 +349,23 @@ public final class DaysTextEdgesTest {
         C.refused(x, "play", Check.days(x, "play a;"), 9);
         C.due("fault(0)", x.fault(0), 3);
         C.fine(x, "the others can be", Check.days(x, "grind 15; throw 15; brush; empty; any; when cup = 0; end; stop;"), 7);
+    }
+
+    private static void readAnew() {
+        C.sentence("a text is read anew, whatever stood in that ahead");
+        String[] ahead = {"loop 1; loop 1; loop 1; any;", "loop 1; play z;", "when up 0; ?", "any;".repeat(31),
+            "loop 1; loop 1; loop 1; loop 1;", "end;"};
+        UnseenRing x = Check.of(BASE);
+        for (String text : ahead) {
+            C.refused(x, text, Check.days(x, text), 9);
+            C.fine(x, "any behind " + text, Check.days(x, "any;"), 1);
+            C.refused(x, text, Check.days(x, text), 9);
+            C.refused(x, "an end behind " + text, Check.days(x, "end;"), 9);
+            C.due("its place", x.fault(1), 0);
+            C.refused(x, text, Check.days(x, text), 9);
+            C.fine(x, "thirty behind " + text, Check.days(x, "any;".repeat(30)), 30);
+            C.fine(x, "three deep behind " + text, Check.days(x, "loop 1;loop 1;loop 1;end;end;end;"), 3);
+        }
     }
 
     private static void daysStay() {

@@ -17,6 +17,7 @@ public final class LifeEdgesTest {
         draws();
         tests();
         loops();
+        manyEnds();
         threeHundred();
         stops();
         livedCalls();
@@ -321,6 +322,20 @@ public final class LifeEdgesTest {
         C.fine(y, "played", y.told(8), 6);
     }
 
+    private static void manyEnds() {
+        C.sentence("end is none: as many STEPS as there can be, and as many ends as the text has room for");
+        UnseenRing x = Check.of(NINE);
+        C.fine(x, "days", Check.days(x, "loop 2;end;".repeat(19) + "any;".repeat(10) + "grind 1;"), 30);
+        C.fine(x, "live", x.live(0), 30);
+        C.fine(x, "the last of them was done", x.told(6), 1);
+        C.fine(x, "days", Check.days(x, "loop 1;end;".repeat(26) + "grind 2;"), 27);
+        C.fine(x, "live", x.live(0), 27);
+        C.fine(x, "the last of them was done", x.told(6), 2);
+        C.fine(x, "days", Check.days(x, "loop 2;loop 3;end;end;".repeat(12) + "send 2 7; play a;"), 26);
+        C.fine(x, "live", x.live(0), 12 * 3 + 2);
+        C.fine(x, "the last but one was done", x.hearer(2, 0), 7);
+    }
+
     private static void threeHundred() {
         C.sentence("At most 300 STEPS; 4: 1 if a STEP was left to be done, else 0");
         // 1 + 3 * (1 + 98) + 1, 2, 3
@@ -349,6 +364,9 @@ public final class LifeEdgesTest {
         C.fine(v, "played", v.told(8), 295);
         UnseenRing u = lived("loop 99; loop 99; loop 99; end; end; end;", 300);
         livedIs(u, 0, 0, 0, 0, 1);
+        Check.days(u, "brush; brush;");
+        C.fine(u, "the next are lived anew", u.live(0), 2);
+        livedIs(u, 2, 0, 0, 0, 0);
     }
 
     private static void stops() {
@@ -511,6 +529,16 @@ public final class LifeEdgesTest {
         C.fine(x, "the organ", x.told(6), 4);
         C.fine(x, "the names are back", Check.days(x, "play a; play b;"), 2);
         C.refused(x, "z is gone", Check.days(x, "play z;"), 9);
+        UnseenRing z = Check.of(NINE);
+        String days = "send 2 7; when far 2 = 1; play a; end; when cup < 1; grind 1; end; when cup > 0; throw 6; end; loop 2; "
+                + "throw 8; end;";
+        Check.days(z, days);
+        z.mark();
+        Check.days(z, "when cup = 9999; send 0 0; end; brush; brush; brush; brush; brush; brush; brush; brush; brush;");
+        z.undo();
+        C.fraction(z, "mean of the days that are back", z.mean(0, 4), 1, 1);
+        C.fine(z, "their steps", z.live(0), 9);
+        livedIs(z, 0, 1, 1, 3, 0);
         C.sentence("no DAYS are kept as none");
         UnseenRing y = Check.of(NINE);
         y.mark();

@@ -302,6 +302,19 @@ public final class LikingEdgesTest {
         C.fine(y, "nothing changed", y.told(8), 0);
         UnseenRing z = Check.of("tune a; tune b; tune c; tune d; tune e; tune f; hearer at 0 likes f;");
         C.fine(z, "the last tune", z.moveOf(4), 5);
+        C.sentence("by best play: what is banned behind it counts");
+        UnseenRing w = Check.of("tune a; tune b; hearer at 0 coins 1 likes a;" + "hearer at 0 coins 1 likes b;".repeat(2));
+        C.fine(w, "b first, since it would be banned", w.moveOf(3), 1);
+        C.fine(w, "b, then nothing or a", w.game(3), 2);
+        UnseenRing v = Check.of("tune a; tune b; tune c; hearer at 0 coins 1 likes a; hearer at 0 coins 1 likes b;"
+                + "hearer at 0 coins 1 likes c; hearer at 0 coins 1 likes c;");
+        C.fine(v, "c, then one of a and b", v.moveOf(3), 2);
+        C.fine(v, "c, then one of a and b", v.game(3), 3);
+        UnseenRing u = Check.of("tune a; tune b; tune c; hearer at 0 coins 1 likes c;"
+                + "hearer at 1 coins 9 likes a b;".repeat(3));
+        C.fine(u, "a brings nothing yet, but three come", u.moveOf(3), 0);
+        C.fine(u, "they give by b", u.game(3), 3);
+        C.fine(u, "by one play c is better", u.moveOf(1), 2);
     }
 
     private static void crowds() {

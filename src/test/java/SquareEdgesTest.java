@@ -118,6 +118,15 @@ public final class SquareEdgesTest {
         step(12, 22, 17);
         step(12, 17, 12);
         step(20, 0, 5);
+        C.sentence("in a square of one column, one row");
+        UnseenRing x = Check.of("square 1 by 5; organ 4; tune a; hearer at 0 likes a; hearer at 3 likes a;");
+        UnseenRing y = Check.of("square 5 by 1; organ 0; tune a; hearer at 4 likes a; hearer at 1 likes a;");
+        for (int i = 1; i <= 4; i++) {
+            C.fine(x, "down", x.play(0), i == 1 ? 0 : 1);
+            C.fine(x, "down", x.hearer(0, 0), i);
+            C.fine(y, "to the left", y.play(0), i == 1 ? 0 : 1);
+            C.fine(y, "to the left", y.hearer(0, 0), 4 - i);
+        }
     }
 
     private static void plays() {

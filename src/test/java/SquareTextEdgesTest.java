@@ -20,11 +20,13 @@ public final class SquareTextEdgesTest {
         coins();
         likes();
         orderOfAPart();
+        leftOut();
         theEnd();
         cantStand();
         toldAlready();
         firstFault();
         taken();
+        readAnew();
         tape();
         longTexts();
         faultCall();
@@ -305,6 +307,49 @@ public final class SquareTextEdgesTest {
         fault("square 4 ^4;", 2);
         fault("square 4 by ^by 4;", 2);
         fault("square 4 by 4 ^by 4;", 2);
+    }
+
+    private static void leftOut() {
+        C.sentence("2 it can't stand there: what stands behind a TOKEN that is left out");
+        String[] parts = {"square 4 by 4 ;", "odds 8 ;", "organ 3 ;", "tune a ;", "hearer at 3 ;", "dog at 3 ;",
+            "hearer at 3 coins 4 ;", "hearer at 3 coins 4 likes b ;"};
+        for (String part : parts) {
+            String[] tokens = part.split(" ");
+            for (int left = 0; left < tokens.length; left++) {
+                StringBuilder text = new StringBuilder("tune b ; ");
+                int place = -1;
+                for (int i = 0; i < tokens.length; i++) {
+                    if (i == left + 1) {
+                        place = text.length();
+                    }
+                    text.append(i == left ? "" : tokens[i] + " ");
+                }
+                if (left + 1 == tokens.length) {
+                    place = text.length();
+                    text.append("tune c ;");
+                }
+                if (!tokens[left].equals("b")) {
+                    faultAt(text.toString(), 2, place);
+                }
+            }
+        }
+    }
+
+    private static void readAnew() {
+        C.sentence("a text is read anew, whatever stood in that ahead");
+        String full = "square 5 by 5; odds 1; organ 24; " + SIX_TUNES + "hearer at 24 coins 99 likes a;".repeat(6)
+                + "dog at 24;".repeat(4);
+        UnseenRing x = new UnseenRing();
+        for (int i = 0; i < 2; i++) {
+            C.refused(x, "all, and a fault", Check.square(x, full + "?"), 9);
+            C.fine(x, "all", Check.square(x, full), 6);
+            C.fine(x, "all again", Check.square(x, full), 6);
+            C.refused(x, "a cell of the old one", Check.square(x, "hearer at 24;"), 9);
+            C.due("no such cell", x.fault(0), 4);
+            C.refused(x, "a tune of the old one", Check.square(x, "hearer at 0 likes a;"), 9);
+            C.due("no such tune", x.fault(0), 3);
+            C.fine(x, "the old one stays", x.told(5), 1);
+        }
     }
 
     private static void theEnd() {
