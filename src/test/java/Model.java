@@ -18,6 +18,7 @@ final class Model {
     int cup;
     int played;
     int tunes;
+    List<String> names = new ArrayList<>();
     List<int[]> hearers = new ArrayList<>(); // CELL, COINS, LIKES, SEEN
     List<Integer> dogs = new ArrayList<>();
 
@@ -29,6 +30,7 @@ final class Model {
         int cells = m.wide * m.high;
         m.organ = random.nextInt(cells);
         m.tunes = random.nextInt(7);
+        m.names.addAll(List.of(NAMES).subList(0, m.tunes));
         int hearers = random.nextInt(7);
         for (int i = 0; i < hearers; i++) {
             int coins = random.nextInt(3) == 0 ? 3 : random.nextInt(6);
@@ -74,6 +76,7 @@ final class Model {
         m.cup = cup;
         m.played = played;
         m.tunes = tunes;
+        m.names.addAll(names);
         for (int[] h : hearers) {
             m.hearers.add(h.clone());
         }

@@ -2,13 +2,14 @@ import java.util.ArrayList;
 import java.util.List;
 import java.util.Random;
 
-/** DAYS as a tree that is made by chance, told as a text, and lived on a Model. */
+/** DAYS as a tree that is made by chance and told as a text, or was read from one, and is lived on a Model. */
 final class ModelDays {
-    private final List<Step> steps = new ArrayList<>();
+    private final List<Step> steps;
     private final Random random;
     private int many = 0;
 
-    private record Step(String word, int a, int b, char sign, int c, List<Step> inside) {
+    /** A when bears the word of its test. */
+    record Step(String word, int a, int b, char sign, int c, List<Step> inside) {
     }
 
     private static final class Ends extends RuntimeException {
@@ -25,7 +26,15 @@ final class ModelDays {
 
     ModelDays(Random random, Model m) {
         this.random = random;
+        this.steps = new ArrayList<>();
         fill(steps, m, 0, 1 + random.nextInt(8));
+    }
+
+    /** Those that were read from a text. */
+    ModelDays(List<Step> steps, int many) {
+        this.random = null;
+        this.steps = steps;
+        this.many = many;
     }
 
     int steps() {
