@@ -61,7 +61,7 @@ public final class ReadmeTest {
     }
 
     private static List<String> run(String source) throws Exception {
-        Path out = Files.createTempDirectory("readme");
+        Path out = Files.createDirectories(Path.of("build", "readme"));
         Path file = Files.writeString(out.resolve("ReadmeExample.java"), source);
         int failed = ToolProvider.getSystemJavaCompiler().run(null, null, null, "-cp",
                 System.getProperty("java.class.path"), "-d", out.toString(), file.toString());
@@ -75,10 +75,6 @@ public final class ReadmeTest {
                 }
             }
         }
-        for (File made : out.toFile().listFiles()) {
-            made.delete();
-        }
-        out.toFile().delete();
         return all;
     }
 
